@@ -681,6 +681,9 @@ public final class ModelTest {
     }
 
     private static long chooser = 20260101;
+    // The document says nothing of an object's later calls.
+    private static final int MOST_CALLS = 512;
+    private static int calls = 0;
     private static int wrong = 0;
     private static final StringBuilder log = new StringBuilder();
 
@@ -710,6 +713,7 @@ public final class ModelTest {
     }
 
     private static void same(String call, long got, long want) {
+        calls++;
         log.append(call).append(" = ").append(got).append('\n');
         if (got != want) {
             wrong++;
@@ -754,9 +758,10 @@ public final class ModelTest {
             default:
                 same(told("lay", r, i, v), x.lay(r, i, v), y.lay(r, i, v));
         }
+        int some = pick(3);
         for (int p = 0; p < 16; p++) {
-            if (r >= 0 && r < 6 && y.place(r, p) == 0) {
-                same(told("holds", r, p), x.holds(r, p, Model.at(y.sheets[r], p)), 1);
+            if (y.place(some, p) == 0) {
+                same(told("holds", some, p), x.holds(some, p, Model.at(y.sheets[some], p)), 1);
             }
         }
     }
@@ -814,23 +819,25 @@ public final class ModelTest {
                 same(told("read", u, rule, c, r, i), x.read(u, rule, c, r, i), y.read(u, rule, c, r, i));
             }
         }
-        all(x, y);
+        look(x, y, u);
     }
 
-    private static void all(GrowingUrns x, Model y) {
-        for (int what = -1; what < 5; what++) {
+    /** What can be seen of one URN and of the whole. */
+    private static void look(GrowingUrns x, Model y, int u) {
+        for (int what = 0; what < 4; what++) {
             same(told("count", what), x.count(what), y.count(what));
         }
-        for (int u = -1; u <= y.w.urns.size(); u++) {
-            for (int what = -1; what < 11; what++) {
-                same(told("about", u, what), x.about(u, what), y.about(u, what));
-            }
-            for (int c = -1; c < 5; c++) {
-                for (int d = -1; d < 5; d++) {
-                    same(told("added", u, c, d), x.added(u, c, d), y.added(u, c, d));
-                }
-            }
+        for (int what = 0; what < 6 + highest(y, u) + 1; what++) {
+            same(told("about", u, what), x.about(u, what), y.about(u, what));
         }
+        int c = near(0, 3);
+        for (int d = 0; d <= highest(y, u); d++) {
+            same(told("added", u, c, d), x.added(u, c, d), y.added(u, c, d));
+        }
+    }
+
+    private static boolean hasCalls(int more) {
+        return calls + more <= MOST_CALLS;
     }
 
     private static void chanceCall(GrowingUrns x, Model y) {
@@ -910,6 +917,7 @@ public final class ModelTest {
     private static void run(int number) {
         GrowingUrns x = new GrowingUrns();
         Model y = new Model();
+        calls = 0;
         log.setLength(0);
         log.append("run ").append(number).append('\n');
         int[] sizes = {3, 6, 12, 40, 200};
@@ -927,27 +935,30 @@ public final class ModelTest {
             int other = u - 1;
             same(told("is", u, c, other), x.is(u, c, other), y.is(u, c, other));
         }
-        for (int i = 0; i < 3; i++) {
-            makeEven(x, y, most);
-        }
-        for (int i = 0; i < 40 && wrong < 5; i++) {
-            switch (pick(8)) {
-                case 0:
-                case 1: sheetCall(x, y); break;
-                case 2: urnCall(x, y, most); break;
+        makeEven(x, y, most);
+        while (hasCalls(50) && wrong < 5) {
+            switch (pick(10)) {
+                case 0: sheetCall(x, y); break;
+                case 1:
+                case 2:
                 case 3: urnCall(x, y, most); break;
                 case 4: makeEven(x, y, most); break;
                 default: chanceCall(x, y);
             }
         }
-        all(x, y);
-        parts(x, y);
+        for (int u = 0; u < y.w.urns.size() && hasCalls(18); u++) {
+            look(x, y, u);
+        }
     }
 
     public static void main(String[] args) {
-        int runs = args.length > 0 ? Integer.parseInt(args[0]) : 3000;
+        int runs = args.length > 0 ? Integer.parseInt(args[0]) : 6000;
         for (int number = 0; number < runs && wrong < 5; number++) {
             run(number);
+            if (calls > MOST_CALLS) {
+                wrong++;
+                System.out.println("run " + number + " takes " + calls + " calls");
+            }
         }
         System.out.println(wrong == 0 ? runs + " runs are as due" : wrong + " answers are not as due");
         if (wrong != 0) {

@@ -218,6 +218,9 @@ public final class PromisesTest {
         x.lay(3, 0, 127);
         due("of bytes", x.read(1, 0, 0, 3, 0), 0);
         due("of bytes", x.about(1, 6), 127);
+        x.lay(3, 1, -1);
+        due("BALLS -1", x.read(1, 0, 0, 3, 0), OUT);
+        due("ADDED 127", x.read(1, 1, 0, 3, 0), OUT);
     }
 
     private static void urn() {
@@ -334,6 +337,11 @@ public final class PromisesTest {
         due("EVEN again", x.about(0, 3), 1);
         due("s again", x.about(0, 4), 2);
         due("yet not LIKE", x.about(0, 5), 0);
+        GrowingUrns w = like(1, 3, 3);
+        w.add(0, 1, 1, 0);
+        w.add(0, 1, 0, 1);
+        due("the first row alike", w.about(0, 3), 1);
+        due("the second is not", w.about(0, 5), 0);
         due("LIKE below 0", like(-1, 3, 3).about(0, 5), 0);
         due("EVEN below 0", like(-1, 3, 3).about(0, 3), 1);
         due("s below 0", like(-1, 3, 3).about(0, 4), -1);
@@ -441,6 +449,15 @@ public final class PromisesTest {
         y.add(7, 1, 0, 1);
         due("the last would have above 200", y.drawn(7), STUCK);
         due("none came above", y.about(7, 1), 1);
+        GrowingUrns t = new GrowingUrns();
+        t.urn(2);
+        t.urn(2);
+        fill(t, 1, 1, 1);
+        t.is(1, 0, 0);
+        t.is(1, 1, 0);
+        due("the one below has no BALLS", t.drawn(1), STUCK);
+        due("none of it", t.shake(1, 5), 0);
+        due("nothing changed", t.count(2), 0);
         GrowingUrns z = new GrowingUrns();
         z.urn(4);
         fill(z, 0, 0, 7, 0, 10);
@@ -541,6 +558,7 @@ public final class PromisesTest {
         due("COLOUR 2", x.chance(0, 2, row(0, 2)), BAD);
         due("row -1", x.chance(0, 1, -1), BAD);
         due("row LOW, no DRAW", x.chance(0, 0, LOW), BAD);
+        due("row -1, no DRAW", x.chance(0, 0, -1), BAD);
         due("n -1", x.chance(0, -1, 0), BAD);
         due("n 13", x.chance(0, 13, 0), BAD);
         due("URN 1", x.chance(1, 1, 0), BAD);
@@ -619,6 +637,8 @@ public final class PromisesTest {
         fraction("1/64", z, 0, 1, 64);
         due("200 to the 7", z.times(0, 7, 0, 0), BIG);
         fraction("it stays", z, 0, 1, 64);
+        due("k 12 of 6", z.times(0, 6, 0, 12), 0);
+        fraction("0", z, 0, 0, 1);
         GrowingUrns e = like(-1, 2, 1);
         due("rows that end count by their DRAWS", e.times(0, 5, 0, 2), 0);
         fraction("1", e, 1, 0, 1);
@@ -755,6 +775,9 @@ public final class PromisesTest {
         x.add(0, 0, 1, 1);
         due("not EVEN", x.told(0, 1, 0, 2, 0), NO);
         due("no BALLS", like(0, 0, 0).told(0, 1, 0, 2, 0), NO);
+        GrowingUrns one = like(1, 1, 0);
+        due("one BALL", one.told(0, 1, 0, 2, 0), 0);
+        fraction("1", one, 1, 0, 1);
         GrowingUrns s = like(1, 199, 100);
         due("STUCK rows do not count", s.told(0, 1, 0, 2, 0), 0);
         fraction("only 1 0 is left", s, 0, 0, 1);
@@ -785,7 +808,9 @@ public final class PromisesTest {
         due("no BALLS", x.share(0, 0, 1), NO);
         due("s 0", like(0, 1, 1).share(0, 0, 1), NO);
         due("s -1", like(-1, 1, 1).share(0, 0, 1), NO);
-        GrowingUrns y = like(1, 1, 1);
+        GrowingUrns y = like(1, 1, 2);
+        due("s 1", y.share(0, 0, 2), 0);
+        fraction("1/3 2/4", y, 0, 1, 6);
         y.add(0, 0, 1, 1);
         y.add(0, 0, 0, 0);
         due("EVEN, not LIKE", y.share(0, 0, 1), NO);
@@ -801,6 +826,8 @@ public final class PromisesTest {
             due("LIKE, n " + n, x.free(0, n), 1);
         }
         fraction("THE FRACTION stays", x, 0, 1, 3);
+        fill(x, 0, 3, 1, 1);
+        due("of other BALLS", x.free(0, 5), 1);
         due("n 0", x.free(0, 0), BAD);
         due("n 6", x.free(0, 6), BAD);
         due("n LOW", x.free(0, LOW), BAD);

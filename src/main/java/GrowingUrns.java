@@ -457,7 +457,7 @@ public final class GrowingUrns {
         int u = top;
         path.length = 0;
         path.seed = seed;
-        while (u >= 0 && path.length < URNS) {
+        while (u >= 0 && u < made && path.length < URNS) {
             Urn own = urns[u];
             int total = own.total();
             if (total <= 0) {
@@ -874,6 +874,9 @@ public final class GrowingUrns {
         void findMean(int m) {
             meanWhole = 0;
             meanRest = 0;
+            if (below < 1) {
+                return;
+            }
             for (int some = 1; some <= MOST_BALLS; some++) {
                 long whole = 0;
                 long rest = byBalls[some];
@@ -926,13 +929,19 @@ public final class GrowingUrns {
                         often[3] = step - first - second - third;
                         findBalls(urn);
                         if (step == n) {
-                            byTimes[often[c]] += weight;
-                            byBalls[balls[c]] += weight;
+                            settle(weight, often[c], balls[c]);
                         } else {
                             spread(urn, place, weight, only[step], often[c], weighing);
                         }
                     }
                 }
+            }
+        }
+
+        private void settle(long weight, int k, int some) {
+            byTimes[k] += weight;
+            if (some >= 0 && some <= MOST_BALLS) {
+                byBalls[some] += weight;
             }
         }
 
