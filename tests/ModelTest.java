@@ -533,12 +533,9 @@ public final class ModelTest {
             if (e != 0) {
                 return e;
             }
-            Rows rows = rows(o, n, any());
             Q q = Q.ZERO;
-            for (Map<List<Integer>, Q> some : List.of(rows.through, rows.ended)) {
-                for (Map.Entry<List<Integer>, Q> x : some.entrySet()) {
-                    q = x.getKey().get(c) == k ? q.plus(x.getValue()) : q;
-                }
+            for (Map.Entry<List<Integer>, Q> x : rows(o, n, any()).through.entrySet()) {
+                q = x.getKey().get(c) == k ? q.plus(x.getValue()) : q;
             }
             fraction = q;
             return 0;

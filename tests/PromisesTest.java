@@ -640,15 +640,21 @@ public final class PromisesTest {
         due("k 12 of 6", z.times(0, 6, 0, 12), 0);
         fraction("0", z, 0, 0, 1);
         GrowingUrns e = like(-1, 2, 1);
-        due("rows that end count by their DRAWS", e.times(0, 5, 0, 2), 0);
+        due("the last BALL", e.times(0, 3, 0, 2), 0);
         fraction("1", e, 1, 0, 1);
+        for (int k = 0; k <= 4; k++) {
+            due("no BALLS for the 4th DRAW", e.times(0, 4, 0, k), 0);
+            fraction("0", e, 0, 0, 1);
+        }
         GrowingUrns s = like(-2, 2, 1);
-        due("STUCK by 1: 0 was not drawn", s.times(0, 2, 0, 0), 0);
-        fraction("1/3", s, 0, 1, 3);
-        due("0, then STUCK by 1", s.times(0, 2, 0, 1), 0);
+        due("STUCK by 1 is no row of a DRAW", s.times(0, 1, 0, 0), 0);
+        fraction("0", s, 0, 0, 1);
+        due("0 goes", s.times(0, 1, 0, 1), 0);
         fraction("2/3", s, 0, 2, 3);
-        due("STUCK by 1: 1 was not drawn", s.times(0, 2, 1, 0), 0);
-        fraction("1", s, 1, 0, 1);
+        due("STUCK by 1: 1 was not drawn, 0 was", s.times(0, 1, 1, 0), 0);
+        fraction("2/3", s, 0, 2, 3);
+        due("0, then STUCK by 1", s.times(0, 2, 0, 1), 0);
+        fraction("0", s, 0, 0, 1);
     }
 
     private static void left() {

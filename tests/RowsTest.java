@@ -94,7 +94,7 @@ public final class RowsTest {
         }
         int all = Arrays.stream(some).sum();
         if (all == 0) {
-            endStuck(row, at, weight.multiply(below).divide(over), eye);
+            stuck = stuck.add(weight.multiply(below).divide(over));
             return;
         }
         BigInteger by = over.multiply(BigInteger.valueOf(all));
@@ -113,27 +113,21 @@ public final class RowsTest {
                 row[at] = c;
                 goOn(row, at + 1, then, next, by, eye);
             } else {
-                endStuck(row, at, next.multiply(below).divide(by), eye);
+                stuck = stuck.add(next.multiply(below).divide(by));
             }
         }
     }
 
-    private static int often(int[] row, int at, int c) {
+    private static int often(int[] row, int c) {
         int k = 0;
-        for (int i = 0; i < at; i++) {
-            k += row[i] == c ? 1 : 0;
+        for (int drawn : row) {
+            k += drawn == c ? 1 : 0;
         }
         return k;
     }
 
-    private void endStuck(int[] row, int at, BigInteger weight, int eye) {
-        stuck = stuck.add(weight);
-        int k = often(row, at, eye);
-        times[k] = times[k].add(weight);
-    }
-
     private void endThrough(int[] row, int[] some, BigInteger weight, int eye) {
-        int k = often(row, draws, eye);
+        int k = often(row, eye);
         times[k] = times[k].add(weight);
         left[some[eye]] = left[some[eye]].add(weight);
         for (int m = 1; m <= 3; m++) {

@@ -304,7 +304,7 @@ public final class GrowingUrns {
         if (refused != 0) {
             return refused;
         }
-        fraction.become(0, after.byTimes[k] + after.endedByTimes[k], after.below);
+        fraction.become(0, after.byTimes[k], after.below);
         return 0;
     }
 
@@ -330,7 +330,7 @@ public final class GrowingUrns {
         if (refused != 0) {
             return refused;
         }
-        fraction.become(0, after.ended(), after.below);
+        fraction.become(0, after.ended, after.below);
         return 0;
     }
 
@@ -811,8 +811,8 @@ public final class GrowingUrns {
         private final int[] often = new int[COLOURS];
         private final int[] balls = new int[COLOURS];
         final long[] byTimes = new long[MOST_DRAWS + 1];
-        final long[] endedByTimes = new long[MOST_DRAWS + 1];
         final long[] byBalls = new long[MOST_BALLS + 1];
+        long ended = 0;
         long below = 1;
         long meanWhole = 0;
         long meanRest = 0;
@@ -855,16 +855,8 @@ public final class GrowingUrns {
         }
 
         long through() {
-            return sumOf(byTimes);
-        }
-
-        long ended() {
-            return sumOf(endedByTimes);
-        }
-
-        private static long sumOf(long[] weights) {
             long sum = 0;
-            for (long weight : weights) {
+            for (long weight : byTimes) {
                 sum += weight;
             }
             return sum;
@@ -892,24 +884,18 @@ public final class GrowingUrns {
 
         private void walk(Urn urn, int n, int c, boolean weighing) {
             Arrays.fill(byTimes, 0L);
-            Arrays.fill(endedByTimes, 0L);
+            ended = 0;
             Arrays.fill(byBalls, 0L);
             now[0] = 1;
             for (int step = 0; step <= n; step++) {
                 if (step < n) {
-                    raiseEnded(factorAt(urn, step));
+                    // Rows that have ended come to the same D as those that go on.
+                    ended *= factorAt(urn, step);
                 }
                 walkStep(urn, step, n, c, weighing);
                 long[] done = now;
                 now = next;
                 next = done;
-            }
-        }
-
-        /** Rows that have ended come to the same D as those that go on. */
-        private void raiseEnded(long factor) {
-            for (int k = 0; k <= MOST_DRAWS; k++) {
-                endedByTimes[k] *= factor;
             }
         }
 
@@ -931,7 +917,7 @@ public final class GrowingUrns {
                         if (step == n) {
                             settle(weight, often[c], balls[c]);
                         } else {
-                            spread(urn, place, weight, only[step], often[c], weighing);
+                            spread(urn, place, weight, only[step], weighing);
                         }
                     }
                 }
@@ -955,9 +941,9 @@ public final class GrowingUrns {
         }
 
         /** One DRAW more: what it leaves, or the end of the row if it is STUCK. */
-        private void spread(Urn urn, int place, long weight, int onlyColour, int k, boolean weighing) {
+        private void spread(Urn urn, int place, long weight, int onlyColour, boolean weighing) {
             if (balls[0] + balls[1] + balls[2] + balls[3] == 0) {
-                endedByTimes[k] += weight;
+                ended += weight;
                 return;
             }
             for (int c = 0; c < urn.colours; c++) {
@@ -968,7 +954,7 @@ public final class GrowingUrns {
                 if (urn.lets(balls, c)) {
                     next[place + STEPS[c]] += share;
                 } else {
-                    endedByTimes[k] += share;
+                    ended += share;
                 }
             }
         }
