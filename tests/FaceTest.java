@@ -4,7 +4,7 @@ import java.lang.reflect.Modifier;
 import java.util.Set;
 import java.util.TreeSet;
 
-/** The public face of the document: its constants, its constructor, its methods, and nothing else that is not private. */
+/** The document's public face: its constants, its constructor, its methods, and no other member that is not private. */
 public final class FaceTest {
     private static final Set<String> METHODS = Set.of("int sheet int int int", "int lay int int long",
         "int copy int int int int int", "int holds int int long", "int read int int int int int", "int urn int",

@@ -805,15 +805,23 @@ public final class UrnEdgesTest {
         takeAllBack("10 and 15 more", y, 20, i -> i < 15 ? 80 - i : 30 - i);
     }
 
+    /** As many things to be seen as there are without an act. */
+    private static GrowingUrns noActsYet() {
+        GrowingUrns x = new GrowingUrns();
+        x.urn(2);
+        x.urn(3);
+        x.seed(9);
+        x.sheet(0, 0, 2);
+        x.lay(0, 1, Edges.laid(0, 1));
+        x.chance(0, 0, 0);
+        return x;
+    }
+
     private static void undoNone() {
+        Edges.refused("no act yet", UrnEdgesTest::noActsYet, x -> x.undo(), NO);
         GrowingUrns x = new GrowingUrns();
         Edges.due("a new object", x.undo(), NO);
         x.urn(2);
-        x.seed(9);
-        x.sheet(0, 0, 2);
-        Edges.due("no act yet", x.undo(), NO);
-        Edges.due("the SEED", x.count(3), 9);
-        Edges.due("URNS", x.count(0), 1);
         x.put(0, 0, 201);
         x.draw(0, 0);
         x.drawn(0);
@@ -848,7 +856,8 @@ public final class UrnEdgesTest {
         Edges.sentence("Terms: EVEN, if ADDED of each COLOUR come to the same sum s", UrnEdgesTest::even);
         Edges.sentence("Terms: LIKE, if ADDED c, d are 0 but of c and d alike, and these s, s at least 0",
             UrnEdgesTest::like);
-        Edges.sentence("13: or by ADDED of c some COLOUR would have less than 0", () -> everywhere(UrnEdgesTest::drawLess));
+        Edges.sentence("13: or by ADDED of c some COLOUR would have less than 0",
+            () -> everywhere(UrnEdgesTest::drawLess));
         Edges.sentence("13: or more than 200", () -> everywhere(UrnEdgesTest::drawMore));
         Edges.sentence("13: if there is none of c; An URN without BALLS is STUCK", UrnEdgesTest::drawNone);
         Edges.sentence("13: Else the BALL is put back, and of each COLOUR comes what is ADDED",

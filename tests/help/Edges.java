@@ -217,6 +217,7 @@ final class Edges {
     /** What the object does from here on: acts that are kept, the SEED and what COLOURS are show here. */
     private static long[] goOn(GrowingUrns x) {
         return new long[] {x.undo(), x.count(3), x.about(1, 1), x.drawn(1), x.shake(1, 3), x.count(3), x.about(0, 1),
-            x.undo(), x.undo(), x.undo(), x.count(1), x.is(1, 0, -1), x.is(1, 1, -1), x.lay(0, 0, 300), x.holds(0, 0, 44)};
+            x.undo(), x.undo(), x.undo(), x.count(1), x.is(1, 0, -1), x.is(1, 1, -1), x.lay(0, 0, 300),
+            x.holds(0, 0, 44)};
     }
 }
