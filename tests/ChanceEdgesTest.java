@@ -704,6 +704,8 @@ public final class ChanceEdgesTest {
         freeUntil("STUCK in all ways", () -> Edges.like(-9, 9, 9), 6);
         freeUntil("1 goes away, and fewer are left", () -> Edges.with(some(200, 1), some(0, 0), some(0, -1)), 2);
         freeUntil("1 0 is STUCK, 0 1 is not", () -> Edges.with(some(1, 1), some(0, 0), some(-1, 1)), 2);
+        freeUntil("0 1 is 1/4, 1 0 is 1/6", () -> Edges.with(some(1, 1), some(0, 0), some(0, 1)), 2);
+        freeUntil("0 1 is 3/8, 1 0 is 1/8", () -> Edges.with(some(1, 1), some(0, 2), some(0, 2)), 2);
         freeUntil("of the last two of four", () -> Edges.with(some(5, 5, 1, 2), some(0), some(0), some(0, 0, 0, 1)),
             2);
     }
